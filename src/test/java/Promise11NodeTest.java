@@ -9,6 +9,7 @@ public final class Promise11NodeTest {
         roundsEndAtTwelve();
         waveIsDoneAfterItsLastRound();
         lastWaveIsDoneAtRoundTwelve();
+        lastWaveIsDoneOnce();
         wavesWithoutTheirLeader();
         threeMustSupportTheLeader();
         CHECK.end();
@@ -41,7 +42,7 @@ public final class Promise11NodeTest {
     private static void ownRoundFollowsTheThird() {
         WaveLedger x = new WaveLedger(1, 0, 3);
         x.begin();
-        for (int i = 0; i < 200; i++) {
+        for (int i = 0; i < 160; i++) {
             x.run(1);
             int inGraph = x.node(1, 3);
             CHECK.due("own round with " + inGraph + " places", 1 + inGraph / 3, x.node(1, 0));
@@ -63,6 +64,8 @@ public final class Promise11NodeTest {
     private static void waveIsDoneAfterItsLastRound() {
         WaveLedger x = new WaveLedger(2, 0, 3);
         x.begin();
+        x.run(100);
+        x.run(80);
         runUntilPlaces(x, 11);
         CHECK.due("round 4 has two: wave", 0, x.node(2, 1));
         CHECK.due("round 4 has two: ordered", 0, x.node(2, 2));
@@ -92,6 +95,18 @@ public final class Promise11NodeTest {
         CHECK.due("round 12 has three: ordered", 25, x.node(2, 2));
         Play.settle(x);
         CHECK.due("once: ordered", 25, x.node(2, 2));
+    }
+
+    /** Here the fourth place of round 12 is the third to support the leader: too late. */
+    private static void lastWaveIsDoneOnce() {
+        WaveLedger x = new WaveLedger(50005, 0, -1);
+        x.begin();
+        Play.settle(x);
+        for (int node = 0; node < 4; node++) {
+            CHECK.due("all is in the graph of " + node, 48, x.node(node, 3));
+            CHECK.due("latest wave of " + node, 2, x.node(node, 1));
+            CHECK.due("ordered by " + node, 16, x.node(node, 2));
+        }
     }
 
     private static void wavesWithoutTheirLeader() {

@@ -9,6 +9,7 @@ public final class Promise13OrderedTest {
         placeReachedByWeakIsOrdered();
         leadersOfEarlierWavesComeFirst();
         leaderWithoutAStrongPathIsLeftOut();
+        strongPathCountsFromTheLastOfTheList();
         listsOfAllLengthsOrderAlike();
         allOrderAlike();
         CHECK.end();
@@ -92,6 +93,15 @@ public final class Promise13OrderedTest {
         WaveLedger x = ended(81, 0b11_01_01);
         CHECK.due("order of 3", "1 0 2 3 4 5 6 7 8 9 10 11 12 13 14 15"
                 + " 16 17 18 19 20 21 22 23 24 25 26 27 28 29 30 35", Play.orderOf(x, 3));
+    }
+
+    /** Here a strong path leads from 32 to 18 and to 1, but none from 18 to 1: 1 is not on the list. */
+    private static void strongPathCountsFromTheLastOfTheList() {
+        WaveLedger x = ended(25940, 0b00_10_01);
+        for (int node = 0; node < 4; node++) {
+            CHECK.due("order of " + node, "0 1 2 3 4 5 6 7 8 9 10 11 12 13 15 18"
+                    + " 14 16 17 19 20 21 22 23 24 25 26 27 28 29 31 32", Play.orderOf(x, node));
+        }
     }
 
     /** Here node 0 commits three waves, node 2 two, nodes 1 and 3 all in the last. */
