@@ -9,6 +9,7 @@ public final class Promise07WhisperTest {
         aboutAnyVertex();
         twoVerticesForOnePlace();
         many();
+        allOfTheCallsThatArePromised();
         CHECK.end();
     }
 
@@ -90,5 +91,14 @@ public final class Promise07WhisperTest {
         x.begin();
         CHECK.due("all wait", 489, x.run(0));
         CHECK.due("the last one of them", 1, x.message(479, 1) + x.message(479, 2));
+    }
+
+    /** One forge and 511 whispers: after the 512th call all of them wait. */
+    private static void allOfTheCallsThatArePromised() {
+        WaveLedger x = new WaveLedger(1, 0, 0);
+        x.forge(12, 0, 0L, 0);
+        for (int i = 1; i <= 511; i++) {
+            CHECK.due("whisper number " + i, i, x.whisper(Play.SEND, 1 + i % 3, 1));
+        }
     }
 }
