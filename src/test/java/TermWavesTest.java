@@ -83,6 +83,9 @@ public final class TermWavesTest {
         CHECK.due("place 15 is in the graph of 0", 4, g.x.graph(0, 15));
         CHECK.due("the third support: wave", 0, g.x.node(0, 1));
         CHECK.due("own round of 0", 5, g.x.node(0, 0));
+        g.all((kind, from, to, v) -> g.placeOf(v) < 20);
+        CHECK.due("own round of 0 when it went on", 6, g.x.node(0, 0));
+        CHECK.due("it is done no more: wave", 0, g.x.node(0, 1));
     }
 
     /** Wave 1 is done without support enough; wave 2, with place 16, has its leader come first. */
